@@ -183,6 +183,15 @@ final class Bench {
         return text.toString();
     }
 
+    /** The same TERM with other VARIABLES: each becomes the one so many further on, round and round. */
+    static String turned(String text, int by) {
+        StringBuilder turned = new StringBuilder();
+        for (char c : text.toCharArray()) {
+            turned.append(c >= 'w' ? (char) ('w' + (c - 'w' + by) % 4) : c);
+        }
+        return turned.toString();
+    }
+
     static String chain(char sign, int times, String rest) {
         return String.valueOf(sign).repeat(times) + rest;
     }

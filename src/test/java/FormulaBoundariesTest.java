@@ -18,6 +18,7 @@ public final class FormulaBoundariesTest {
         Sentences.holds("Terms", "0 an ATOM, 0 to 5", FormulaBoundariesTest::atoms);
         Sentences.holds("Terms", "1 an EQUALITY of two TERMS; 2 NOT a; 3 a AND b; 4 a OR b; 5 a IMPLIES b.",
                 FormulaBoundariesTest::kinds);
+        Sentences.holds("Promise 20:", "(not looked at with 0 and 2)", FormulaBoundariesTest::notLookedAt);
         Sentences.holds("Terms", "In SEQUENTS EQUALITIES are the same ATOM, if their sides come to the same NORMAL"
                 + " TERMS (either way round)", FormulaBoundariesTest::sameEqualities);
         Sentences.holds("Terms", "one with the same NORMAL TERM on both sides is TRUE.",
@@ -90,6 +91,8 @@ public final class FormulaBoundariesTest {
             boolean isOfOne = one[0] == Bench.ATOM || one[0] == Bench.NOT;
             due(isOfOne ? number : Sentences.INDEX, () -> b.formula(one[0], one[1], 77));
         }
+        due(0, () -> b.formula(Bench.ATOM, 0, 0));
+        due(1, () -> b.formula(Bench.EQUALITY, 0, 0));
         due(40, b::formulas);
         // turned round they are others
         due(Sentences.STATE, () -> b.formula(Bench.AND, 1, 0));
@@ -170,6 +173,20 @@ public final class FormulaBoundariesTest {
         due(9, () -> formulas.formula(Bench.IMPLIES, 8, 0));
     }
 
+    private static void notLookedAt() {
+        for (int kind = Bench.ATOM; kind <= Bench.IMPLIES; kind++) {
+            int asked = kind;
+            boolean isAny = kind == Bench.ATOM || kind == Bench.NOT;
+            Bench b = new Bench().fillTerms(3).atoms();
+            int built = b.formula(kind, 0, 0);
+            int formulas = b.formulas();
+            for (int odd : new int[] {60, 40, formulas, -1, Sentences.LOW, Sentences.HIGH}) {
+                due(isAny ? built : Sentences.INDEX, () -> b.formula(asked, 0, odd));
+            }
+            due(formulas, b::formulas);
+        }
+    }
+
     // ---- SEQUENTS
 
     private static boolean implied(Bench b, int one, int other) {
@@ -226,10 +243,36 @@ public final class FormulaBoundariesTest {
         due(false, () -> b.isProved(other));
         b.dropRule(0);
         due(false, () -> b.isProved(like));
+        // whichever call asks first
+        for (int call = 0; call < 3; call++) {
+            Bench fresh = new Bench();
+            int not = fresh.equality("3x", "x");
+            fresh.line(not, 8, 0, 0);
+            firstAsked(fresh, not, call, false);
+            fresh.ruled("3x", "x");
+            firstAsked(fresh, not, call, true);
+            fresh.dropRule(0);
+            firstAsked(fresh, not, call, false);
+        }
         Bench often = new Bench().ruled("32x", "23x", "30", "0");
         due(true, () -> often.isProved(often.equality(THIRTY, "222220")));
         due(false, () -> often.isProved(often.equality(THIRTY_ONE, "222220")));
         due(true, () -> often.isProved(often.equality(THIRTY_ONE, THIRTY_ONE)));
+    }
+
+    private static void firstAsked(Bench b, int equality, int call, boolean isTrue) {
+        switch (call) {
+            case 0:
+                due(isTrue ? 1 : 0, () -> b.proof(equality, 1));
+                break;
+            case 1:
+                due(isTrue ? -1 : 0, b::firstWrong);
+                break;
+            default:
+                due(isTrue, () -> b.isRight(0));
+                break;
+        }
+        due(isTrue, () -> b.isProved(equality));
     }
 
     private static void proofIs(Bench b, int formula, int apart, int closed, int open) {

@@ -14,6 +14,8 @@ public final class ProofBoundariesTest {
         Sentences.holds("Terms", "4 A PROOF has at most 24 LINES, numbered from 0", ProofBoundariesTest::mostLines);
         Sentences.holds("Terms", "each with a FORMULA and a REASON, which names earlier LINES",
                 ProofBoundariesTest::earlierLines);
+        Sentences.holds("Promise 24:", "the LINE x (not looked at with 0 and 8)", () -> notLookedAt(true));
+        Sentences.holds("Promise 24:", "the LINE y (not looked at but with 1, 2 and 7)", () -> notLookedAt(false));
         Sentences.holds("Terms", "(x is a: its FORMULA has the same number)", ProofBoundariesTest::sameNumber);
         Sentences.holds("Terms", "0 it is GIVEN;", ProofBoundariesTest::byGiven);
         Sentences.holds("Terms", "1 by x and y: x is a, y is a IMPLIES this;", ProofBoundariesTest::byImplication);
@@ -33,6 +35,7 @@ public final class ProofBoundariesTest {
                 + " itself, too, each counted once.", ProofBoundariesTest::givenOnce);
         Sentences.holds("Promise 28:", "Returns the first LINE that is not RIGHT; -1 without one.",
                 ProofBoundariesTest::firstWrong);
+        Sentences.holds("Terms", "---- what would be (nothing is changed)", ProofBoundariesTest::nothingIsChanged);
         Sentences.holds("Promise 31:", "A number d starts with 58092; for each of the following numbers v, d becomes"
                 + " d * 31 + v, which wraps around as a 64-bit integer", ProofBoundariesTest::digestWraps);
         Sentences.holds("Promise 31:", "for each RULE the sign or VARIABLE (as with at()) at each PLACE of l, then of"
@@ -100,6 +103,17 @@ public final class ProofBoundariesTest {
             Sentences.refused(Sentences.INDEX, () -> lines(count), b -> b.line(0, reason, 0, odd));
         } else if (count > 0) {
             due(full, () -> lines(count).line(0, reason, 0, odd));
+        }
+    }
+
+    private static void notLookedAt(boolean isX) {
+        for (int reason = 0; reason <= 9; reason++) {
+            int asked = reason;
+            boolean isLookedAt = namedBy(reason) >= (isX ? 1 : 2);
+            for (int odd : new int[] {3, 24, -1, Sentences.LOW, Sentences.HIGH}) {
+                Bench b = lines(3);
+                due(isLookedAt ? Sentences.INDEX : (Object) 3, () -> b.line(0, asked, isX ? odd : 2, isX ? 2 : odd));
+            }
         }
     }
 
@@ -347,6 +361,15 @@ public final class ProofBoundariesTest {
         // one that only stands behind a wrong one, and does not name it
         due(true, () -> right(b, 0, 0, 0, 0));
         due(true, () -> right(b, 0, 9, 0, 0));
+        // one by a RIGHT one, though the first LINE of all is wrong
+        Bench first = new Bench().atoms();
+        first.line(1, 8, 0, 0);
+        first.line(0, 0, 0, 0);
+        int or = first.formula(Bench.OR, 0, 0);
+        due(true, () -> right(first, or, 5, 1, 0));
+        due(true, () -> right(first, or, 6, 1, 0));
+        due(true, () -> right(first, 0, 9, 1, 0));
+        due(true, () -> right(first, 0, 0, 0, 0));
         // what a REASON does not look at does not matter
         due(true, () -> right(b, 0, 9, 0, wrong));
         due(true, () -> right(b, 0, 0, wrong, wrong));
@@ -451,7 +474,30 @@ public final class ProofBoundariesTest {
         }
     }
 
-    // ---- the checksum
+    // ---- what would be, and the checksum
+
+    private static void nothingIsChanged() {
+        Supplier<Bench> start = () -> {
+            Bench b = new Bench().ruled("3x", "x", "42xx", "0").fillTerms(17);
+            b.waits("44xyz", "4x4yz");
+            b.waits("501", "0");
+            b.atoms();
+            b.line(b.equality("32y", "2y"), 8, 0, 0);
+            return b;
+        };
+        Bench b = start.get();
+        long digest = b.digest();
+        for (int steps = 1; steps <= 3; steps++) {
+            b.rulesAfter(steps);
+            due(digest, b::digest);
+        }
+        for (int term = 0; term < 17; term++) {
+            b.sizeWithout(0, term);
+            b.sizeWithout(1, term);
+        }
+        due(digest, b::digest);
+        due(start.get().story(), b::story);
+    }
 
     /** By whole numbers that do not wrap around, cut to 64 bits at the end. */
     private static final class Sum {
@@ -587,6 +633,26 @@ public final class ProofBoundariesTest {
         for (int formulas : new int[] {0, 1, 11, 12, 13, 40}) {
             dueSum(() -> new Bench().fillFormulas(formulas));
         }
+        // PROVED ones among them, and EQUALITIES of TERMS behind the 20th, that no other call has asked for
+        for (int closing = 0; closing < 12; closing++) {
+            int proved = closing;
+            dueSum(() -> {
+                Bench b = new Bench();
+                for (int i = 0; i < 12; i++) {
+                    int atom = b.formula(Bench.ATOM, i % 6, 0);
+                    b.formula(i < 6 ? Bench.IMPLIES : Bench.NOT, atom, i == proved ? atom : 0);
+                }
+                return b;
+            });
+        }
+        dueSum(() -> {
+            Bench b = new Bench().fillTerms(40).ruled("20", "0");
+            b.formula(Bench.EQUALITY, 30, 31);
+            b.formula(Bench.EQUALITY, 30, 12);
+            b.formula(Bench.EQUALITY, 39, 38);
+            b.formula(Bench.EQUALITY, 20, 39);
+            return b;
+        });
         // the 13th does not count, the 12th does
         for (int many : new int[] {11, 12}) {
             Bench one = new Bench().fillFormulas(many);

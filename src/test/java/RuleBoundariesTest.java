@@ -348,26 +348,30 @@ public final class RuleBoundariesTest {
         due(10, () -> new Bench().ruled(Bench.chain('2', 11, "x"), "3x").overlaps(0, 0));
     }
 
+    /** How many there are of the RULE one into the other one, and how many EQUATIONS wait; with any VARIABLES. */
+    private static void overlapping(int want, int waiting, int one, int other, String... sides) {
+        for (int by = 0; by < 4; by++) {
+            String[] turned = new String[sides.length];
+            for (int i = 0; i < sides.length; i++) {
+                turned[i] = Bench.turned(sides[i], by);
+            }
+            Bench b = new Bench().ruled(turned);
+            due(sides.length / 2 + " " + waiting + " 0 " + sides.length / 2 + " 0", b::counts);
+            due(want, () -> b.overlaps(one, other));
+        }
+    }
+
     private static void variablesOfOverlaps() {
         // the first side first: 40z and 42a4az
         Bench group = new Bench().ruled("40x", "x", "42xx", "0", "44xyz", "4x4yz");
         group.complete(2);
         due("40x>x 42xx>0 44xyz>4x4yz 42x4xw>w", group::rules);
         // four in the first side, and five; the last RULE has one into itself, too
-        Bench four = new Bench().ruled("54xyz", "4xy", "44wxy", "4w4xy");
-        due(1, () -> four.overlaps(1, 0));
-        due("2 2 0 2 0", four::counts);
-        Bench five = new Bench().ruled("54xy4zw", "4x4y4zw", "44wxy", "4w4xy");
-        due(0, () -> five.overlaps(1, 0));
-        due("2 1 0 2 0", five::counts);
+        overlapping(1, 2, 1, 0, "54xyz", "4xy", "44wxy", "4w4xy");
+        overlapping(0, 1, 1, 0, "54xy4zw", "4x4y4zw", "44wxy", "4w4xy");
         // two in the first side and two more in the other one, three and two more
-        Bench both = new Bench().ruled("54xyz", "44xyz", "44xyz", "x");
-        due("54xyz>44xyz 44xyz>x", both::rules);
-        due(1, () -> both.overlaps(1, 0));
-        due("2 2 0 2 0", both::counts);
-        Bench more = new Bench().ruled("54xy4zw", "44xy4zw", "44xyz", "x");
-        due(0, () -> more.overlaps(1, 0));
-        due("2 1 0 2 0", more::counts);
+        overlapping(1, 2, 1, 0, "54xyz", "44xyz", "44xyz", "x");
+        overlapping(0, 1, 1, 0, "54xy4zw", "44xy4zw", "44xyz", "x");
         // those that were put, but are in neither side, do not count
         Bench gone = new Bench().ruled("54xy4zw", "0", "44xyz", "1");
         due(2, () -> gone.overlaps(1, 0));
@@ -376,39 +380,34 @@ public final class RuleBoundariesTest {
     }
 
     private static void sameSides() {
-        Bench same = new Bench().ruled("22x", "x");
-        due(0, () -> same.overlaps(0, 0));
-        due("1 0 0 1 0", same::counts);
-        Bench other = new Bench().ruled("22x", "3x");
-        due(1, () -> other.overlaps(0, 0));
-        due("1 1 0 1 0", other::counts);
+        overlapping(0, 0, 0, 0, "22x", "x");
+        overlapping(1, 1, 0, 0, "22x", "3x");
         // 4wx = 4wy: not the same, though each FITS the other
-        Bench alike = new Bench().ruled("44xyz", "x");
-        due(1, () -> alike.overlaps(0, 0));
-        due("1 1 0 1 0", alike::counts);
+        overlapping(1, 1, 0, 0, "44xyz", "x");
         // of two RULES: 520y is 50y by both of them, or 50y by one and 51y by the other
-        due("2 0 0 2 0", () -> new Bench().ruled("52xy", "50y", "20", "0").counts());
-        due("2 1 0 2 0", () -> new Bench().ruled("52xy", "51y", "20", "0").counts());
+        overlapping(0, 0, 1, 0, "52xy", "50y", "20", "0");
+        overlapping(1, 1, 1, 0, "52xy", "51y", "20", "0");
     }
 
     private static void sizesOfOverlaps() {
         // the first side: 4 20 4 2400 2400 is 12, 4 220 4 2400 2400 is 13
-        Bench first12 = new Bench().ruled("42x4xx", "x", "22400", "20");
-        due(1, () -> first12.overlaps(1, 0));
-        due("2 1 0 2 0", first12::counts);
-        Bench first13 = new Bench().ruled("42x4xx", "x", "22400", "220");
-        due(0, () -> first13.overlaps(1, 0));
-        due("2 0 0 2 0", first13::counts);
+        overlapping(1, 1, 1, 0, "42x4xx", "x", "22400", "20");
+        overlapping(0, 0, 1, 0, "42x4xx", "x", "22400", "220");
+        // .. and with a sign as its last PLACE: 5 4 20 4 400 400 0, and with 220
+        overlapping(1, 1, 1, 0, "542x4xx0", "x", "2400", "20");
+        overlapping(0, 0, 1, 0, "542x4xx0", "x", "2400", "220");
         // the other side: 24 and 22220 twice is 12, with 222220 once it is 13
-        Bench other12 = new Bench().ruled("34xy", "24xy", "42222022220", "0");
-        due(1, () -> other12.overlaps(1, 0));
-        due("2 1 0 2 0", other12::counts);
-        Bench other13 = new Bench().ruled("34xy", "24xy", "422220222220", "0");
-        due(0, () -> other13.overlaps(1, 0));
-        due("2 0 0 2 0", other13::counts);
+        overlapping(1, 1, 1, 0, "34xy", "24xy", "42222022220", "0");
+        overlapping(0, 0, 1, 0, "34xy", "24xy", "422220222220", "0");
+        // one that is left out, at the PLACE 2, changes nothing of the next one, at the PLACE 7
+        Bench next = new Bench().ruled("542x4xx2y", "0", "22400", "320");
+        due("2 1 0 2 0", next::counts);
+        next.complete(1);
+        due("542x4xx2y>0 22400>320 542w4ww320>0", next::rules);
         // one of 12 is an EQUATION like others: 30 and 2 42222022220, which comes to 20
-        other12.complete(1);
-        due("34xy>24xy 42222022220>0 30>20", other12::rules);
+        Bench other = new Bench().ruled("34xy", "24xy", "42222022220", "0");
+        other.complete(1);
+        due("34xy>24xy 42222022220>0 30>20", other::rules);
     }
 
     // ---- stopping

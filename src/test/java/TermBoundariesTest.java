@@ -15,6 +15,8 @@ public final class TermBoundariesTest {
         Sentences.holds("Promise 1:", "Creates a workshop without TERMS.", TermBoundariesTest::newObject);
         Sentences.holds("Terms", "Signs: 0 and 1 are constants, 2 and 3 are of one TERM, 4 and 5 of two",
                 TermBoundariesTest::signs);
+        Sentences.holds("Promise 3:", "its first part (not looked at with 0 and 1)", () -> notLookedAt(0, 1, true));
+        Sentences.holds("Promise 3:", "its second part (not looked at with 0 to 3)", () -> notLookedAt(0, 3, false));
         Sentences.holds("Terms", "there are VARIABLES 0 to 3", TermBoundariesTest::variables);
         Sentences.holds("Terms", "At most 60 TERMS are numbered, from 0", TermBoundariesTest::sixtyTerms);
         Sentences.holds("Terms", "each once, as they are built or told of (that TERM alone, its parts not)",
@@ -124,12 +126,26 @@ public final class TermBoundariesTest {
             due(sizes[sign], () -> b.ofTerm(built, 0));
             due(sign, () -> b.at(built, 0));
             due(2, b::terms);
-            // parts that the sign has not are not looked at
-            due(built, () -> b.term(asked, asked < 2 ? -1 : x, asked < 4 ? Sentences.HIGH : x));
+            due(built, () -> b.term(asked, x, x));
             due(2, b::terms);
         }
         for (int odd : new int[] {-1, 6, Sentences.LOW, Sentences.HIGH}) {
             Sentences.refused(Sentences.ARGUMENT, () -> new Bench().fillTerms(2), b -> b.term(odd, 0, 0));
+        }
+    }
+
+    /** With these signs any part will do, with the others only one that is there. */
+    private static void notLookedAt(int least, int most, boolean isFirst) {
+        for (int sign = 0; sign <= 5; sign++) {
+            int asked = sign;
+            boolean isAny = sign >= least && sign <= most;
+            Bench b = new Bench();
+            int x = b.variable(0);
+            int built = b.term(sign, x, x);
+            for (int odd : new int[] {2, 60, -1, Sentences.LOW, Sentences.HIGH}) {
+                due(isAny ? built : Sentences.INDEX, () -> b.term(asked, isFirst ? odd : x, isFirst ? x : odd));
+            }
+            due(2, b::terms);
         }
     }
 
@@ -316,11 +332,13 @@ public final class TermBoundariesTest {
     }
 
     private static void compared(int want, String one, String other) {
-        Bench b = new Bench();
-        int first = b.built(one);
-        int second = b.built(other);
-        due(want, () -> b.compare(first, second));
-        due(-want, () -> b.compare(second, first));
+        for (int by = 0; by < 4; by++) {
+            Bench b = new Bench();
+            int first = b.built(Bench.turned(one, by));
+            int second = b.built(Bench.turned(other, by));
+            due(want, () -> b.compare(first, second));
+            due(-want, () -> b.compare(second, first));
+        }
     }
 
     private static void moreOften() {
@@ -394,10 +412,12 @@ public final class TermBoundariesTest {
     }
 
     private static void fitting(boolean want, String one, String other) {
-        Bench b = new Bench();
-        int first = b.built(one);
-        int second = b.built(other);
-        due(want, () -> b.fits(first, second));
+        for (int by = 0; by < 16; by++) {
+            Bench b = new Bench();
+            int first = b.built(Bench.turned(one, by % 4));
+            int second = b.built(Bench.turned(other, by / 4));
+            due(want, () -> b.fits(first, second));
+        }
     }
 
     private static void fits() {
@@ -427,13 +447,15 @@ public final class TermBoundariesTest {
     }
 
     private static void met(int want, String one, String other) {
-        Bench b = new Bench();
-        int first = b.built(one);
-        int second = b.built(other);
-        int terms = b.terms();
-        due(want, () -> b.meet(first, second));
-        due(want, () -> b.meet(second, first));
-        due(terms, b::terms);
+        for (int by = 0; by < 16; by++) {
+            Bench b = new Bench();
+            int first = b.built(Bench.turned(one, by % 4));
+            int second = b.built(Bench.turned(other, by / 4));
+            int terms = b.terms();
+            due(want, () -> b.meet(first, second));
+            due(want, () -> b.meet(second, first));
+            due(terms, b::terms);
+        }
     }
 
     private static void meetOfAnySize() {
@@ -463,6 +485,10 @@ public final class TermBoundariesTest {
         met(-1, "4xx", "401");
         met(3, "4xx", "4z1");
         met(-1, "44xxx", "44w01");
+        // what is behind a part that is the same already is looked at, too
+        met(-1, "54xx0", "54yy1");
+        met(5, "54xx0", "54yy0");
+        met(-1, "54xx4x0", "54yy4y" + "20");
     }
 
     private static void meetNotInItself() {
@@ -477,5 +503,17 @@ public final class TermBoundariesTest {
         met(3, "4xx", "4yz");
         met(5, "44xxx", "44yzy");
         met(7, "44xx4xx", "44yz4zy");
+        // one after the other, on one object
+        Bench b = new Bench();
+        String[] ones = {"5x54xx5y4yy", "54xy4yx", "x", "4xx", "4xx", "44xyx"};
+        String[] others = {"5w5x54xxy", "54z2z4z2z", "x", "4y2y", "4y20", "44z2x2z"};
+        int[] due = {29, -1, 1, -1, 5, -1};
+        for (int turn = 0; turn < 3; turn++) {
+            for (int i = 0; i < ones.length; i++) {
+                int first = b.built(ones[i]);
+                int second = b.built(others[i]);
+                due(due[i], () -> b.meet(first, second));
+            }
+        }
     }
 }
